@@ -613,7 +613,6 @@ public final class TwinMill {
 
     /** Runs the bytes of its memory; accumulator is A, index X. */
     private static final class FirstMachine extends Machine {
-        @Override
         void step() {
             int op = peek(pc);
             // Taken before anything is written: a CALL may push onto its own second byte.
@@ -699,7 +698,6 @@ public final class TwinMill {
             this.program = program;
         }
 
-        @Override
         void begin(int[] source, int start) {
             super.begin(source, start);
             r2 = 0;
@@ -717,7 +715,6 @@ public final class TwinMill {
             return did;
         }
 
-        @Override
         int view(int what) {
             if (what == 8) {
                 return r2;
@@ -725,7 +722,6 @@ public final class TwinMill {
             return what == 9 ? bit(kept) : super.view(what);
         }
 
-        @Override
         void step() {
             int number = program.part(pc, 0);
             int x = program.part(pc, 1);

@@ -71,5 +71,7 @@ public final class CodeTest {
             check.same("code(" + i / 3 + ", " + i % 3 + ")", mill.code(i / 3, i % 3), due[i]);
         }
         check.same("second PC", mill.look(1, Mills.PC), 5);
+        TwinMill odd = Mills.at0(0, 27, 3, 1);
+        check.same("the address behind a call at 1", odd.code(1, 2), 3);
     }
 }

@@ -63,6 +63,7 @@ public final class FirstTest {
         shows(check, Mills.at0(2, 0, 1), 1, 0, 0, 255, 2, 1, 0);
         shows(check, Mills.at0(3, 4, 1, 0, 77), 1, 77, 0, 255, 2, 0, 0);
         shows(check, Mills.at0(3, 3, 1, 0), 1, 0, 0, 255, 2, 1, 0);
+        shows(check, Mills.at0(7, 1, 3, 6, 1, 0, 77, 78), 2, 77, 1, 255, 4, 0, 0);
         shows(check, Mills.at0(7, 3, 4, 4, 1, 0, 0, 66), 2, 66, 3, 255, 4, 0, 0);
         shows(check, Mills.at0(7, 252, 4, 10, 1, 0, 55), 2, 55, 252, 255, 4, 0, 0);
         shows(check, Mills.at0(7, 3, 4, 2, 1, 0), 2, 0, 3, 255, 4, 1, 0);
@@ -79,6 +80,9 @@ public final class FirstTest {
         store.first(4);
         check.same("byte at n", store.byteAt(0, 100), 9);
         check.same("byte at n + X", store.byteAt(0, 14), 9);
+        check.same("no byte at n + X by 5", store.byteAt(0, 94), 0);
+        check.same("no byte at n by 6", store.byteAt(0, 20), 0);
+        check.same("X stays", store.look(0, Mills.X), 250);
         check.same("Z stays", store.look(0, Mills.Z), 0);
         check.same("the second memory is another one", store.byteAt(1, 100), 0);
     }
@@ -149,6 +153,9 @@ public final class FirstTest {
             }
         }
         shows(check, Mills.at0(7, 200, 31), 2, 0, 200, 255, 200, 0, 0);
+        TwinMill loaded = Mills.at0(7, 1, 4, 9, 1, 0, 0, 0, 0, 8, 7);
+        shows(check, loaded, 2, 7, 1, 255, 4, 0, 0);
+        check.same("a load writes nothing", loaded.byteAt(0, 9), 8);
     }
 
     private static void stack(Check check) {

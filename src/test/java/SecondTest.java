@@ -84,24 +84,32 @@ public final class SecondTest {
     }
 
     private static void memory(Check check) {
-        TwinMill mill = Mills.at0(2, 9, 7, 250, 5, 100, 6, 20, 4, 106, 3, 14, 8, 9, 20, 21, 1);
+        TwinMill mill = new TwinMill();
+        Mills.put(mill, 0, 2, 9, 7, 250, 5, 100, 6, 20, 4, 126, 3, 121, 8, 9, 20, 21, 1);
+        Mills.put(mill, 120, 60, 70);
+        mill.translate(0);
         mill.second(5);
-        shows(check, "behind X = 250", mill, Mills.X, 250);
-        mill.second(2);
-        check.same("byte at n", mill.byteAt(1, 100), 9);
-        check.same("byte at n + X wraps", mill.byteAt(1, 14), 9);
+        shows(check, "behind 2 R1 250", mill, Mills.X, 250);
+        mill.second(1);
+        check.same("byte at y", mill.byteAt(1, 100), 9);
+        check.same("not at y + R1", mill.byteAt(1, 94), 0);
         check.same("the first memory is another one", mill.byteAt(0, 100), 0);
-        mill.second(2);
-        shows(check, "byte at 106 + 250", mill, Mills.A, 9);
-        mill.second(2);
+        mill.second(1);
+        check.same("byte at y + R1 wraps", mill.byteAt(1, 14), 9);
+        check.same("not at y", mill.byteAt(1, 20), 0);
         mill.second(4);
-        shows(check, "byte at 14", mill, Mills.A, 9);
+        shows(check, "byte at 126 + 250", mill, Mills.A, 60);
+        check.same("a load writes nothing", mill.byteAt(1, 120), 60);
+        check.same("a load writes nothing", mill.byteAt(1, 126), 0);
+        mill.second(4);
+        shows(check, "byte at 121", mill, Mills.A, 70);
+        check.same("a load writes nothing", mill.byteAt(1, 121), 70);
         mill.second(1);
-        shows(check, "X = A", mill, Mills.X, 9);
+        shows(check, "behind 3 R1 R0", mill, Mills.X, 70);
         mill.second(5);
-        shows(check, "doubled", mill, Mills.A, 18);
+        shows(check, "doubled", mill, Mills.A, 140);
         mill.second(1);
-        shows(check, "halved", mill, Mills.A, 9);
+        shows(check, "halved", mill, Mills.A, 70);
         check.same("PC", mill.look(1, Mills.PC), mill.mapped(16));
     }
 

@@ -143,10 +143,15 @@ public final class TranslateTest {
     }
 
     private static void beginsAnew(Check check) {
-        TwinMill mill = Mills.at0(2, 0, 19, 1, 29, 10, 5, 90, 12, 1, 9, 1);
+        TwinMill mill = Mills.at0(2, 4, 15, 5, 29, 5, 90, 7, 255, 10, 1);
         mill.first(300);
         mill.second(300);
-        check.same("halted", mill.look(0, Mills.STATE) + mill.look(1, Mills.STATE), 2);
+        for (int machine = 0; machine < 2; machine++) {
+            check.same("Z, C and halted", mill.look(machine, Mills.Z) + mill.look(machine, Mills.C)
+                + mill.look(machine, Mills.STATE), 3);
+        }
+        check.same("kept, R2", mill.look(1, Mills.KEPT) + mill.look(1, Mills.R2), 2);
+        Mills.put(mill, 8, 12, 1, 9, 1);
         check.same("translate(8)", mill.translate(8), 7);
         for (int machine = 0; machine < 2; machine++) {
             for (int what = 0; what < 10; what++) {
