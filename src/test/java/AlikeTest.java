@@ -10,6 +10,8 @@ public final class AlikeTest {
         halts(check);
         onePartAlone(check);
         notCompared(check);
+        notMapped(check);
+        haltedOrNot(check);
         check.end();
     }
 
@@ -70,6 +72,58 @@ public final class AlikeTest {
             mill.boundary();
         }
         check.same("alike when the second has gone round too: " + part, mill.alike(), true);
+    }
+
+    /** "not alike if it is not mapped", though all else is the same, wherever the second one is. */
+    private static void notMapped(Check check) {
+        // The target of 22 is stored over: the first machine goes to 20, the second one to the code of 0, at 0.
+        TwinMill mill = Mills.at0(2, 20, 5, 5, 22, 0);
+        Mills.stepped(mill, 2);
+        check.same("before the transfer", mill.alike(), true);
+        Mills.stepped(mill, 1);
+        check.same("first PC", mill.look(0, Mills.PC), 20);
+        check.same("second PC", mill.look(1, Mills.PC), 0);
+        check.same("not alike at an address that is not mapped", mill.alike(), false);
+        // A second byte is not mapped either.
+        TwinMill within = Mills.at0(2, 1, 5, 5, 22, 0);
+        Mills.stepped(within, 3);
+        check.same("first PC", within.look(0, Mills.PC), 1);
+        check.same("not alike at a second byte", within.alike(), false);
+        // Mapped, but the code of another address.
+        TwinMill other = Mills.at0(2, 4, 5, 5, 22, 0);
+        Mills.stepped(other, 3);
+        check.same("first PC", other.look(0, Mills.PC), 4);
+        check.same("not alike at another mapped address", other.alike(), false);
+        // Behind a second translation what was mapped before is none.
+        TwinMill anew = Mills.from(0, Mills.at(0, 7, 60, 31), Mills.at(60, 1));
+        anew.translate(60);
+        anew.translate(0);
+        Mills.stepped(anew, 2);
+        check.same("not alike at what was mapped before", anew.alike(), false);
+    }
+
+    /** "both have HALTED or neither has": X is 1, to which 26 fails, and a byte is stored over the 31 at 6. */
+    private static void haltedOrNot(Check check) {
+        TwinMill one = Mills.at0(7, 1, 2, 1, 5, 6, 31);
+        Mills.stepped(one, 3);
+        check.same("neither has halted", one.alike(), true);
+        one.second(1);
+        check.same("the second has failed, the first goes on", one.alike(), true);
+        one.first(1);
+        check.same("the first has halted, the second has failed",
+            one.look(0, Mills.STATE) * 10 + one.look(1, Mills.STATE), 12);
+        check.same("one has halted", one.alike(), false);
+        TwinMill none = Mills.at0(7, 1, 2, 99, 5, 6, 31);
+        Mills.stepped(none, 4);
+        check.same("both have failed", none.look(0, Mills.STATE) * 10 + none.look(1, Mills.STATE), 22);
+        check.same("neither has halted when both have failed", none.alike(), true);
+        TwinMill both = Mills.at0(10, 1);
+        Mills.stepped(both, 1);
+        both.second(1);
+        check.same("the second has halted", both.alike(), false);
+        both.first(1);
+        check.same("both have halted", both.alike(), true);
+        check.same("and stay alike", both.first(300) + both.second(300) == 0 && both.alike(), true);
     }
 
     /** R2, the kept flag, counts, and whether one has FAILED, are no parts of the views. */

@@ -22,7 +22,7 @@ public final class CodeTest {
     }
 
     private static void row(Check check, int op) {
-        boolean two = op >= 2 && op <= 7 || op >= 12 && op <= 19 || op >= 22 && op <= 27;
+        boolean two = Mills.isTwo(op);
         TwinMill mill = new TwinMill();
         Mills.put(mill, 0, op, two ? 6 : 1, 1);
         mill.image(6, 1);

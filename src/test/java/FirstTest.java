@@ -6,6 +6,7 @@ public final class FirstTest {
         Check check = new Check("FirstTest");
         wrongInputs(check);
         counts(check);
+        ends(check);
         loads(check);
         index(check);
         sums(check);
@@ -48,6 +49,33 @@ public final class FirstTest {
         check.same("stays", lost.first(9), 0);
         check.same("stays there", lost.look(0, Mills.PC), 50);
         check.same("counted once", lost.look(0, Mills.DONE), 3);
+    }
+
+    /** The most that a call may do, and an end that falls on the last of it. */
+    private static void ends(Check check) {
+        // X is counted down to 0, with two instructions a round; then a HALT.
+        int[][] rows = {{148, 298, Mills.HALTED, 0}, {149, 300, Mills.HALTED, 0}, {150, 300, Mills.GOES_ON, 2}};
+        for (int[] row : rows) {
+            TwinMill mill = Mills.at0(7, row[0], 11, 24, 2, 1);
+            check.same("first(300) with X " + row[0], mill.first(300), row[1]);
+            check.same("state with X " + row[0], mill.look(0, Mills.STATE), row[2]);
+            check.same("first(300) again with X " + row[0], mill.first(300), row[3]);
+            check.same("state at the end", mill.look(0, Mills.STATE), Mills.HALTED);
+            check.same("counted", mill.look(0, Mills.DONE), row[1] + row[3]);
+        }
+        for (int end : new int[] {1, 32, 255}) {
+            for (int n = 1; n <= 4; n++) {
+                TwinMill mill = Mills.from(0, Mills.at(0, 7, 90, 31), Mills.at(90, end));
+                check.same("first(" + n + ") to " + end, mill.first(n), Math.min(n, 3));
+                int state = n < 3 ? Mills.GOES_ON : end == 1 ? Mills.HALTED : Mills.FAILED;
+                check.same("state behind " + n, mill.look(0, Mills.STATE), state);
+                check.same("first(1) behind " + n + " to " + end, mill.first(1), n < 3 ? 1 : 0);
+            }
+            TwinMill atOnce = Mills.from(0, Mills.at(0, 7, 90, 31), Mills.at(90, end));
+            atOnce.first(2);
+            check.same("first(1) at " + end, atOnce.first(1), 1);
+            check.same("first(1) at " + end + " once more", atOnce.first(1), 0);
+        }
     }
 
     /** What a machine shows behind some instructions: A, X, SP, PC, Z, C. */

@@ -4,6 +4,8 @@ public final class NewObjectTest {
         Check check = new Check("NewObjectTest");
         fresh(check, false);
         fresh(check, true);
+        wrongInputs(check);
+        imageAlone(check);
         check.end();
     }
 
@@ -16,6 +18,48 @@ public final class NewObjectTest {
             mill.translate(0);
         }
         return mill;
+    }
+
+    /** Before any translation a wrong question is answered, and a wrong call refused, as later on. */
+    private static void wrongInputs(Check check) {
+        TwinMill mill = new TwinMill();
+        for (int wrong : new int[] {-1, 256, Integer.MIN_VALUE, Integer.MAX_VALUE}) {
+            check.throwing("image(" + wrong + ", 0)", IllegalArgumentException.class, () -> mill.image(wrong, 0));
+            check.throwing("image(0, " + wrong + ")", IllegalArgumentException.class, () -> mill.image(0, wrong));
+            check.throwing("translate(" + wrong + ")", IllegalArgumentException.class, () -> mill.translate(wrong));
+            check.same("mapped(" + wrong + ")", mill.mapped(wrong), TwinMill.NONE);
+            check.same("code(" + wrong + ", 0)", mill.code(wrong, 0), TwinMill.NONE);
+            check.same("code(0, " + wrong + ")", mill.code(0, wrong), TwinMill.NONE);
+            check.same("look(" + wrong + ", 2)", mill.look(wrong, 2), TwinMill.NONE);
+            check.same("look(0, " + wrong + ")", mill.look(0, wrong), TwinMill.NONE);
+            check.same("byteAt(" + wrong + ", 0)", mill.byteAt(wrong, 0), TwinMill.NONE);
+            check.same("byteAt(1, " + wrong + ")", mill.byteAt(1, wrong), TwinMill.NONE);
+        }
+        for (int k = 0; k < 1025; k += 32) {
+            check.same("code(" + k + ", 0)", mill.code(k, 0), TwinMill.NONE);
+        }
+        for (int n : new int[] {1, 2, 299, 300}) {
+            check.throwing("first(" + n + ")", IllegalStateException.class, () -> mill.first(n));
+            check.throwing("second(" + n + ")", IllegalStateException.class, () -> mill.second(n));
+        }
+        check.throwing("boundary()", IllegalStateException.class, mill::boundary);
+        check.same("halted or failed", mill.look(0, Mills.STATE) + mill.look(1, Mills.STATE), 0);
+        check.same("instructions", mill.look(0, Mills.DONE) + mill.look(1, Mills.DONE), 0);
+    }
+
+    /** An image without a translation reaches neither machine. */
+    private static void imageAlone(Check check) {
+        TwinMill mill = Mills.with(Mills.at(0, 1, 255));
+        check.same("alike()", mill.alike(), false);
+        check.same("mapped(0)", mill.mapped(0), TwinMill.NONE);
+        check.same("byteAt(0, 1)", mill.byteAt(0, 1), 0);
+        check.same("byteAt(1, 1)", mill.byteAt(1, 1), 0);
+        check.throwing("first(1)", IllegalStateException.class, () -> mill.first(1));
+        check.throwing("second(1)", IllegalStateException.class, () -> mill.second(1));
+        check.throwing("boundary()", IllegalStateException.class, mill::boundary);
+        check.same("translate(0)", mill.translate(0), 1);
+        check.same("first(1)", mill.first(1), 1);
+        check.same("boundary()", mill.boundary(), 1);
     }
 
     private static void fresh(Check check, boolean refused) {

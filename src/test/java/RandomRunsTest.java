@@ -61,7 +61,7 @@ public final class RandomRunsTest {
         for (int i = 0; i < many; i++) {
             starts[i] = at & 255;
             ops[i] = random.nextInt(400) == 0 ? 32 + random.nextInt(224) : random.nextInt(32);
-            boolean two = ops[i] >= 2 && ops[i] <= 7 || ops[i] >= 12 && ops[i] <= 19 || ops[i] >= 22 && ops[i] <= 27;
+            boolean two = Mills.isTwo(ops[i]);
             at += two ? 2 : 1;
         }
         for (int i = 0; i < many; i++) {

@@ -4,6 +4,7 @@ public final class SecondTest {
         Check check = new Check("SecondTest");
         wrongInputs(check);
         counts(check);
+        ends(check);
         keeping(check);
         memory(check);
         calls(check);
@@ -38,6 +39,34 @@ public final class SecondTest {
         check.same("stays", lost.second(9), 0);
         check.same("stays there", lost.look(1, Mills.PC), 1);
         check.same("counted once", lost.look(1, Mills.DONE), 2);
+    }
+
+    /** The most that a call may do, and an end that falls on the last of it. */
+    private static void ends(Check check) {
+        // X is counted down to 0, with five instructions a round; then a HALT.
+        int[][] rows = {{58, 295, Mills.HALTED, 0}, {59, 300, Mills.HALTED, 0}, {60, 300, Mills.GOES_ON, 5}};
+        for (int[] row : rows) {
+            TwinMill mill = Mills.at0(0, 0, 0, 7, row[0], 11, 24, 5, 1);
+            check.same("second(300) with X " + row[0], mill.second(300), row[1]);
+            check.same("state with X " + row[0], mill.look(1, Mills.STATE), row[2]);
+            check.same("second(300) again with X " + row[0], mill.second(300), row[3]);
+            check.same("state at the end", mill.look(1, Mills.STATE), Mills.HALTED);
+            check.same("counted", mill.look(1, Mills.DONE), row[1] + row[3]);
+        }
+        for (int n = 1; n <= 4; n++) {
+            TwinMill halt = Mills.at0(0, 0, 1);
+            check.same("second(" + n + ") to a halt", halt.second(n), Math.min(n, 3));
+            check.same("state", halt.look(1, Mills.STATE), n < 3 ? Mills.GOES_ON : Mills.HALTED);
+            check.same("second(1) behind " + n, halt.second(1), n < 3 ? 1 : 0);
+            TwinMill loop = Mills.at0(0, 28);
+            check.same("second(" + n + ") to a return that does not fail", loop.second(n), n);
+            check.same("state", loop.look(1, Mills.STATE), Mills.GOES_ON);
+            TwinMill failed = Mills.at0(10, 28);
+            check.same("second(4)", failed.second(4), 4);
+            check.same("second(" + n + ") to a return that fails", failed.second(n), Math.min(n, 2));
+            check.same("state", failed.look(1, Mills.STATE), n < 2 ? Mills.GOES_ON : Mills.FAILED);
+            check.same("second(1) behind " + n, failed.second(1), n < 2 ? 1 : 0);
+        }
     }
 
     private static void shows(Check check, String when, TwinMill mill, int what, int due) {

@@ -1,7 +1,5 @@
-/** Promise 3. */
+/** Promise 3; that a refused translation changes nothing is in NothingChangesTest. */
 public final class TranslateTest {
-    private static final int STATE_PARTS = 20 + 512 + 256 + 60;
-
     public static void main(String[] args) {
         Check check = new Check("TranslateTest");
         TwinMill mill = new TwinMill();
@@ -13,7 +11,6 @@ public final class TranslateTest {
         runOff(check);
         edges(check);
         reachOf(check);
-        refusedChangesNothing(check);
         beginsAnew(check);
         longest(check);
         check.end();
@@ -50,7 +47,7 @@ public final class TranslateTest {
 
     private static void runOff(Check check) {
         for (int op = 0; op < 32; op++) {
-            boolean two = op >= 2 && op <= 7 || op >= 12 && op <= 19 || op >= 22 && op <= 27;
+            boolean two = Mills.isTwo(op);
             TwinMill mill = new TwinMill();
             // Address 0 holds a HALT, at which an instruction at 254 or 255 may arrive.
             Mills.put(mill, 0, 1);
@@ -99,47 +96,6 @@ public final class TranslateTest {
             boolean target = row[0] >= 22 && row[0] <= 27;
             check.same("50 reached from " + row[0], mill.mapped(50) != TwinMill.NONE, target);
         }
-    }
-
-    private static void refusedChangesNothing(Check check) {
-        // A few parts of the state for each pair of mills: an object is good for 512 calls.
-        for (int from = 0; from < STATE_PARTS; from += 200) {
-            TwinMill untouched = inTheMiddle();
-            TwinMill mill = inTheMiddle();
-            refuseThrice(check, mill);
-            for (int i = from; i < from + 200 && i < STATE_PARTS; i++) {
-                check.same("state part " + i, part(mill, i), part(untouched, i));
-            }
-            check.same("first goes on", mill.first(9), 2);
-            check.same("second goes on", mill.second(9), 8);
-        }
-    }
-
-    private static TwinMill inTheMiddle() {
-        TwinMill mill = Mills.at0(2, 7, 12, 250, 30, 1);
-        mill.first(2);
-        mill.second(3);
-        return mill;
-    }
-
-    private static void refuseThrice(Check check, TwinMill mill) {
-        Mills.put(mill, 0, 99, 22, 2);
-        check.same("refused 1", mill.translate(0), -1000);
-        check.same("refused 2", mill.translate(1), -2002);
-        mill.image(0, 1);
-        check.same("refused 3", mill.translate(255), -3255);
-    }
-
-    /** The looks of both machines, their bytes, what is mapped, and the first twenty instructions. */
-    private static int part(TwinMill mill, int i) {
-        if (i < 20) {
-            return mill.look(i / 10, i % 10);
-        }
-        if (i < 20 + 512) {
-            return mill.byteAt((i - 20) / 256, (i - 20) % 256);
-        }
-        int rest = i - 20 - 512;
-        return rest < 256 ? mill.mapped(rest) : mill.code((rest - 256) / 3, (rest - 256) % 3);
     }
 
     private static void beginsAnew(Check check) {
