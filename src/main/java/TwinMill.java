@@ -16,11 +16,11 @@ public final class TwinMill {
     private final SecondMachine secondMachine;
 
     public TwinMill() {
-        source = new int[SIZE];
-        reach = new Reach(source);
-        program = new Program();
+        reach = new Reach();
+        source = reach.source;
         firstMachine = new FirstMachine();
-        secondMachine = new SecondMachine(program);
+        secondMachine = new SecondMachine();
+        program = secondMachine.program;
     }
 
     public boolean image(int a, int v) throws IllegalArgumentException {
@@ -207,7 +207,7 @@ public final class TwinMill {
         }
     }
 
-    /** Which addresses of the image an entry leads to, and whether they can be translated. */
+    /** The image, which of its addresses an entry leads to, and whether they can be translated. */
     private static final class Reach {
         private static final int WHY = 1000;
 
@@ -216,8 +216,8 @@ public final class TwinMill {
         private final int[] pending;
         private int found;
 
-        Reach(int[] source) {
-            this.source = source;
+        Reach() {
+            source = new int[SIZE];
             reached = new boolean[SIZE];
             pending = new int[SIZE];
         }
@@ -694,8 +694,8 @@ public final class TwinMill {
         private int r2;
         private boolean kept;
 
-        SecondMachine(Program program) {
-            this.program = program;
+        SecondMachine() {
+            program = new Program();
         }
 
         void begin(int[] source, int start) {
@@ -709,7 +709,8 @@ public final class TwinMill {
             int did = 0;
             boolean arrived = false;
             while (!arrived && state == GOES_ON && did < Program.MOST) {
-                did += run(1);
+                run(1);
+                did++;
                 arrived = program.beginsAt(pc);
             }
             return did;
