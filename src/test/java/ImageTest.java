@@ -16,6 +16,7 @@ public final class ImageTest {
         }
         everyByte(check);
         onlyTheImage(check);
+        overTheProgram(check);
         check.end();
     }
 
@@ -41,5 +42,36 @@ public final class ImageTest {
         mill.translate(0);
         check.same("byteAt(0, 9)", mill.byteAt(0, 9), 44);
         check.same("byteAt(1, 9)", mill.byteAt(1, 9), 44);
+    }
+
+    /** Bytes laid over a program that was translated change neither its code nor the machines, nor how they go on. */
+    private static void overTheProgram(Check check) {
+        int[] program = {15, 1, 27, 9, 24, 0, 10, 22, 10, 28, 1};
+        for (int before : new int[] {0, 1, 3, 4}) {
+            for (int behind : new int[] {0, 1, 300}) {
+                Whole.same(check, "image over a program behind " + before + ", before " + behind, () -> {
+                    TwinMill mill = run(Mills.at0(program), before);
+                    layOver(mill, program.length);
+                    return run(mill, behind);
+                }, () -> run(run(Mills.at0(program), before), behind));
+            }
+        }
+        TwinMill mill = Mills.at0(program);
+        layOver(mill, program.length);
+        check.same("the next translation sees it", mill.translate(0), -1000);
+    }
+
+    private static void layOver(TwinMill mill, int length) {
+        for (int a = 0; a < length; a++) {
+            mill.image(a, 99);
+        }
+    }
+
+    private static TwinMill run(TwinMill mill, int n) {
+        if (n > 0) {
+            mill.first(n);
+            mill.second(n);
+        }
+        return mill;
     }
 }

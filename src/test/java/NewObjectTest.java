@@ -6,6 +6,7 @@ public final class NewObjectTest {
         fresh(check, true);
         wrongInputs(check);
         imageAlone(check);
+        besideAnother(check);
         check.end();
     }
 
@@ -60,6 +61,28 @@ public final class NewObjectTest {
         check.same("translate(0)", mill.translate(0), 1);
         check.same("first(1)", mill.first(1), 1);
         check.same("boundary()", mill.boundary(), 1);
+    }
+
+    /** An object is new whatever another one has done, and does nothing to that one. */
+    private static void besideAnother(Check check) {
+        TwinMill other = Mills.from(0, Mills.at(0, 15, 1, 29, 10, 5, 90, 27, 9, 1, 28), Mills.at(91, 99));
+        other.first(4);
+        other.second(300);
+        fresh(check, false);
+        fresh(check, true);
+        Mills.stepped(Mills.at0(7, 3, 29, 22, 0), 9);
+        int[] first = {255, 1, 254, 6, 0, 1, Mills.GOES_ON, 4, 0, 0};
+        int[] second = {255, 1, 254, 11, 0, 1, Mills.HALTED, 14, 8, 1};
+        for (int what = 0; what < 10; what++) {
+            check.same("look(0, " + what + ") of the other one", other.look(0, what), first[what]);
+            check.same("look(1, " + what + ") of the other one", other.look(1, what), second[what]);
+        }
+        check.same("the first memory of the other one", other.byteAt(0, 90), 255);
+        check.same("the second memory of the other one", other.byteAt(1, 90), 255);
+        check.same("where its halt's code begins", other.mapped(8), 11);
+        check.same("its first machine goes on", other.first(300), 3);
+        check.same("alike()", other.alike(), true);
+        check.same("its image is its own", other.translate(91), -1091);
     }
 
     private static void fresh(Check check, boolean refused) {

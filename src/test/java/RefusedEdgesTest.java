@@ -128,6 +128,11 @@ public final class RefusedEdgesTest {
         answers(check, "0 is not behind an unknown at 255", -1255, 255, Mills.at(255, 99), Mills.at(0, 99));
         answers(check, "0 is not behind an unknown at 254", -1254, 254, Mills.at(254, 99, 9), Mills.at(0, 99));
         answers(check, "an unknown has no target", -1060, 60, Mills.at(60, 54, 5), Mills.at(5, 99));
+        // Were it followed, with one byte or with two, or to a target, it would come to the unknown at 5 or 22.
+        for (int op = 32; op < 256; op++) {
+            answers(check, op + " leads nowhere", -1060, 60, Mills.at(60, op, 22, 5, 0, 22, 5), Mills.at(5, 99),
+                Mills.at(22, 99));
+        }
     }
 
     /** "in each case with the least such address", in whatever order they are found. */
